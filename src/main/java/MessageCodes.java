@@ -141,7 +141,16 @@ public final class MessageCodes {
         if (!sender.mayUse(key) || sender.isBlocked() || messageLength < CUT_CODE_OCTETS) {
             return NOT_IN_THIS_STATE;
         }
-        int answer = judgeTry(used, sender, cut);
+        int ahead = sender.stepsTo(cut);
+        long counter = sender.counter + ahead;
+        int answer;
+        if (ahead == 0) {
+            answer = NO;
+        } else if (ahead > MOST_STEPS_AHEAD || counter > HIGHEST_COUNTER) {
+            answer = SYNC_NEEDED;
+        } else {
+            answer = sender.endTry(counter, isCodedRow(used, sender, counter));
+        }
         emptyMessage();
         return answer;
     }
@@ -244,25 +253,6 @@ public final class MessageCodes {
         outLength = (bits + 7) / 8;
     }
 
-    private int judgeTry(Key used, Sender sender, int cut) {
-        int ahead = (cut - (int) (sender.counter & 255)) & 255;
-        if (ahead == 0) {
-            return NO;
-        }
-        long counter = sender.counter + ahead;
-        if (ahead > MOST_STEPS_AHEAD || counter > HIGHEST_COUNTER) {
-            return SYNC_NEEDED;
-        }
-        if (!isCodedRow(used, sender, counter)) {
-            sender.badTries++;
-            return NO;
-        }
-        sender.counter = counter;
-        // Only tries one after the other block a sender, so a good one ends their row.
-        sender.badTries = 0;
-        return YES;
-    }
-
     private boolean isCodedRow(Key used, Sender sender, long counter) {
         int rowLength = messageLength - CUT_CODE_OCTETS;
         coder.begin(used);
@@ -328,7 +318,7 @@ public final class MessageCodes {
     private static final class Sender {
         final int identity;
         long counter;
-        int badTries;
+        private int badTries;
         /** Bit k is set if the sender MAY use key k. */
         private int allowedKeys;
 
@@ -338,6 +328,22 @@ public final class MessageCodes {
 
         boolean isBlocked() {
             return badTries >= BAD_TRIES_THAT_BLOCK;
+        }
+
+        /** How far the next counter with those lowest eight bits is above the last one. */
+        int stepsTo(int cut) {
+            return (cut - (int) (counter & 255)) & 255;
+        }
+
+        int endTry(long tried, boolean good) {
+            if (!good) {
+                badTries++;
+                return NO;
+            }
+            counter = tried;
+            // Only bad tries one after the other block a sender, so a good one ends their row.
+            badTries = 0;
+            return YES;
         }
 
         boolean mayUse(int number) {

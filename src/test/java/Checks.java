@@ -27,12 +27,15 @@ final class Checks {
         }
     }
 
-    /** Octet i of OUT, or NOTHING_THERE where the due exception, and just that class, was thrown. */
+    /** Octet i of OUT, or NOTHING_THERE where the due exception, and just that class, was thrown by the class itself. */
     static int outOrNothing(MessageCodes x, int i) {
         try {
             return x.out(i);
         } catch (RuntimeException e) {
-            return e.getClass() == ArrayIndexOutOfBoundsException.class ? NOTHING_THERE : -NOTHING_THERE;
+            boolean due = e.getClass() == ArrayIndexOutOfBoundsException.class;
+            // The machine's own exception tells the array's length; a throw statement's does not.
+            boolean byMachine = e.getMessage() != null && e.getMessage().contains("out of bounds for length");
+            return due && !byMachine ? NOTHING_THERE : -NOTHING_THERE;
         }
     }
 

@@ -269,10 +269,16 @@ public final class SendersTest {
         for (int i = 1; i <= 4; i++) {
             Checks.due("bad try " + i + " of the new trip", tryBad(x, 1, 1), 0);
         }
+        Checks.due("good after four", tryCoded(x, 1, 1, 1), 1);
+        for (int i = 1; i <= 4; i++) {
+            tryBad(x, 1, 2);
+        }
         Checks.due("trip(2)", x.trip(2), 1);
-        Checks.due("bad try of the next trip", tryBad(x, 1, 1), 0);
-        Checks.due("sender 1 is free", tryCoded(x, 1, 2, 1), 1);
         Checks.due("sender 64 is free", tryCoded(x, 64, 2, 1), 1);
+        for (int i = 1; i <= 5; i++) {
+            Checks.due("bad try " + i + " of the next trip", tryBad(x, 1, 1), 0);
+        }
+        Checks.due("sender 1 is blocked anew", tryBad(x, 1, 1), -3);
     }
 
     private static void listsOfKeys() {
