@@ -1,6 +1,6 @@
 import java.util.Arrays;
 
-/** Codes for rows that nobody may alter or send again. The promises that the comments name are those of DOC.md. */
+/** Codes for rows that nobody may alter or send again; DOC.md says what each call promises, and what the terms mean. */
 public final class MessageCodes {
     private static final int UNKNOWN_NUMBER = -1;
     private static final int OUTSIDE_RANGE = -2;
