@@ -125,6 +125,22 @@ final class Checks {
         return asBlock(x);
     }
 
+    /** A row and, behind it, the first 8 octets of the code that a sender with that key makes of it. */
+    static byte[] codedRow(byte[] key, int id, long trip, long counter, byte[] row) {
+        byte[] all = join(number(id, 1), number(trip, 4), number(counter, 8), row);
+        return join(row, first(libraryCode(key, all), 8));
+    }
+
+    /** The 24 octets with which a key comes wrapped by another one. */
+    static byte[] wrappedKey(byte[] other, byte[] key, long counter) {
+        byte[] mask = libraryCipher(other, number(counter, 16));
+        byte[] row = new byte[16];
+        for (int i = 0; i < 16; i++) {
+            row[i] = (byte) (key[i] ^ mask[i]);
+        }
+        return join(row, first(libraryCode(other, join(number(counter, 8), row)), 8));
+    }
+
     private static BigInteger doubled(BigInteger n) {
         BigInteger moved = n.shiftLeft(1);
         return moved.testBit(128) ? moved.clearBit(128).xor(BigInteger.valueOf(135)) : moved;

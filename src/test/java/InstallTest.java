@@ -21,19 +21,10 @@ public final class InstallTest {
         return x;
     }
 
-    private static byte[] wrapped(byte[] other, byte[] key, long counter) {
-        byte[] mask = Checks.libraryCipher(other, Checks.number(counter, 16));
-        byte[] row = new byte[16];
-        for (int i = 0; i < 16; i++) {
-            row[i] = (byte) (key[i] ^ mask[i]);
-        }
-        return Checks.join(row, Checks.first(Checks.libraryCode(other, Checks.join(Checks.number(counter, 8), row)), 8));
-    }
-
     private static void keysComeWrapped() {
         for (long counter : new long[] {1, 255, 0x0102030405060708L, Long.MAX_VALUE}) {
             MessageCodes x = withKeys();
-            Checks.giveMessage(x, wrapped(OTHER, NEW, counter));
+            Checks.giveMessage(x, Checks.wrappedKey(OTHER, NEW, counter));
             Checks.due("install(1, 2, " + counter + ")", x.install(1, 2, counter), 1);
             Checks.due("check(1)", x.check(1), Checks.checkValue(NEW));
             Checks.due("check(2)", x.check(2), Checks.checkValue(OTHER));
@@ -44,12 +35,12 @@ public final class InstallTest {
 
     private static void keyWrapsItself() {
         MessageCodes x = withKeys();
-        Checks.giveMessage(x, wrapped(OTHER, NEW, 4));
+        Checks.giveMessage(x, Checks.wrappedKey(OTHER, NEW, 4));
         Checks.due("install(2, 2, 4)", x.install(2, 2, 4), 1);
         Checks.due("check(2)", x.check(2), Checks.checkValue(NEW));
-        Checks.giveMessage(x, wrapped(OTHER, OTHER, 5));
+        Checks.giveMessage(x, Checks.wrappedKey(OTHER, OTHER, 5));
         Checks.due("wrapped by the old one", x.install(2, 2, 5), 0);
-        Checks.giveMessage(x, wrapped(NEW, OTHER, 5));
+        Checks.giveMessage(x, Checks.wrappedKey(NEW, OTHER, 5));
         Checks.due("wrapped by the new one", x.install(2, 2, 5), 1);
         Checks.due("check(2) again", x.check(2), Checks.checkValue(OTHER));
     }
@@ -62,21 +53,21 @@ public final class InstallTest {
         for (int i = 0; i < counters.length; i++) {
             byte[] key = new byte[16];
             key[i] = (byte) (i + 1);
-            Checks.giveMessage(x, wrapped(OTHER, key, counters[i]));
+            Checks.giveMessage(x, Checks.wrappedKey(OTHER, key, counters[i]));
             Checks.due("install " + i, x.install(1, 2, counters[i]), answers[i]);
             held = answers[i] == 1 ? key : held;
             Checks.due("check(1) after install " + i, x.check(1), Checks.checkValue(held));
             Checks.due("the message is empty after install " + i, x.install(1, 2, 9), -3);
         }
         Checks.giveKey(x, 1, NEW);
-        Checks.giveMessage(x, wrapped(OTHER, NEW, 5));
+        Checks.giveMessage(x, Checks.wrappedKey(OTHER, NEW, 5));
         Checks.due("keyByte leaves the COUNTER", x.install(1, 2, 5), 0);
-        Checks.giveMessage(x, wrapped(OTHER, NEW, 1));
+        Checks.giveMessage(x, Checks.wrappedKey(OTHER, NEW, 1));
         Checks.due("the other key has a COUNTER of its own", x.install(2, 2, 1), 1);
     }
 
     private static void alteredKeysAreNotTaken() {
-        byte[] good = wrapped(OTHER, NEW, 7);
+        byte[] good = Checks.wrappedKey(OTHER, NEW, 7);
         MessageCodes x = withKeys();
         for (int i = 0; i < good.length; i++) {
             // Every call counts towards the 512 that an object is used for.
@@ -98,7 +89,7 @@ public final class InstallTest {
     }
 
     private static void refusalsChangeNothing() {
-        byte[] good = wrapped(OTHER, NEW, 7);
+        byte[] good = Checks.wrappedKey(OTHER, NEW, 7);
         MessageCodes x = withKeys();
         Checks.giveMessage(x, Checks.first(good, 23));
         Checks.due("23 octets", x.install(1, 2, 7), -3);
@@ -114,11 +105,11 @@ public final class InstallTest {
         Checks.due("24 octets", x.install(1, 2, 7), 1);
         Checks.due("no octets, counter below 0", x.install(1, 2, -1), -2);
         Checks.due("no octets", x.install(1, 2, 8), -3);
-        Checks.giveMessage(x, Checks.join(wrapped(OTHER, NEW, 8), new byte[1]));
+        Checks.giveMessage(x, Checks.join(Checks.wrappedKey(OTHER, NEW, 8), new byte[1]));
         Checks.due("25 octets", x.install(1, 2, 8), -3);
         x.code(2, 128);
         Checks.dueOut("the message has stayed", x,
-                Checks.libraryCode(OTHER, Checks.join(wrapped(OTHER, NEW, 8), new byte[1])));
+                Checks.libraryCode(OTHER, Checks.join(Checks.wrappedKey(OTHER, NEW, 8), new byte[1])));
     }
 
     private static void nextOctetIsTheFirst() {
@@ -129,7 +120,7 @@ public final class InstallTest {
         Checks.due("not taken", x.install(1, 2, 1), 0);
         x.keyByte(1, (byte) 3);
         Checks.due("goes on at the third", x.check(1), Checks.checkValue(Checks.first(Checks.hex("010203"), 16)));
-        Checks.giveMessage(x, wrapped(OTHER, NEW, 1));
+        Checks.giveMessage(x, Checks.wrappedKey(OTHER, NEW, 1));
         Checks.due("taken", x.install(1, 2, 1), 1);
         x.keyByte(1, (byte) 77);
         byte[] changed = NEW.clone();

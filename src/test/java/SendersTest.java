@@ -31,13 +31,8 @@ public final class SendersTest {
         return x;
     }
 
-    private static byte[] coded(int id, long trip, long counter, byte[] row) {
-        byte[] all = Checks.join(Checks.number(id, 1), Checks.number(trip, 4), Checks.number(counter, 8), row);
-        return Checks.join(row, Checks.first(Checks.libraryCode(KEY, all), 8));
-    }
-
     private static int tryCoded(MessageCodes x, int id, long trip, long counter) {
-        Checks.giveMessage(x, coded(id, trip, counter, ROW));
+        Checks.giveMessage(x, Checks.codedRow(KEY, id, trip, counter, ROW));
         return x.verify(1, id, (int) (counter & 255));
     }
 
@@ -89,13 +84,13 @@ public final class SendersTest {
     private static void rowsOfManyLengths() {
         for (int length : new int[] {0, 1, 2, 3, 4, 18, 19, 20, 35, 291, 292}) {
             MessageCodes x = withSender(64);
-            Checks.giveMessage(x, coded(64, 0, 1, new byte[length]));
+            Checks.giveMessage(x, Checks.codedRow(KEY, 64, 0, 1, new byte[length]));
             Checks.due("a row of " + length, x.verify(1, 64, 1), 1);
         }
     }
 
     private static void alteredTriesAreBad() {
-        byte[] good = coded(1, 0, 1, ROW);
+        byte[] good = Checks.codedRow(KEY, 1, 0, 1, ROW);
         for (int i = 0; i < good.length; i++) {
             MessageCodes x = withSender(1);
             byte[] altered = good.clone();
@@ -115,7 +110,7 @@ public final class SendersTest {
         Checks.due("another trip's row", x.verify(1, 1, 1), 0);
         x.key();
         x.may(1, 2, true);
-        Checks.giveMessage(x, coded(1, 1, 1, ROW));
+        Checks.giveMessage(x, Checks.codedRow(KEY, 1, 1, 1, ROW));
         Checks.due("another key's row", x.verify(2, 1, 1), 0);
         Checks.due("the row at last", tryCoded(x, 1, 1, 1), 1);
     }
@@ -145,7 +140,7 @@ public final class SendersTest {
 
     private static void verifyRefusals() {
         MessageCodes x = withSender(1);
-        Checks.giveMessage(x, coded(1, 0, 1, new byte[0]));
+        Checks.giveMessage(x, Checks.codedRow(KEY, 1, 0, 1, new byte[0]));
         for (int number : new int[] {0, -1, 65, 2000, Integer.MIN_VALUE, Integer.MAX_VALUE}) {
             Checks.due("verify(" + number + ", 1, 1)", x.verify(number, 1, 1), -1);
             Checks.due("verify(1, " + number + ", 1)", x.verify(1, number, 1), -1);
@@ -176,12 +171,12 @@ public final class SendersTest {
         for (int i = 1; i <= 5; i++) {
             Checks.due("bad try " + i, tryBad(x, 1, i), 0);
         }
-        Checks.giveMessage(x, coded(1, 0, 1, ROW));
+        Checks.giveMessage(x, Checks.codedRow(KEY, 1, 0, 1, ROW));
         Checks.due("a good one of a blocked sender", x.verify(1, 1, 1), -3);
         Checks.due("0 for d of a blocked sender", x.verify(1, 1, 0), -3);
         Checks.due("a wrong cut of a blocked sender", x.verify(1, 1, 256), -2);
         x.code(1, 128);
-        Checks.dueOut("the message has stayed", x, Checks.libraryCode(KEY, coded(1, 0, 1, ROW)));
+        Checks.dueOut("the message has stayed", x, Checks.libraryCode(KEY, Checks.codedRow(KEY, 1, 0, 1, ROW)));
         Checks.due("another sender", tryCoded(x, 2, 0, 1), 1);
         Checks.due("fresh(1, 9) of a blocked sender", x.fresh(1, 9), 1);
         Checks.due("may(1, 1, true) of a blocked sender", x.may(1, 1, true), 1);
@@ -220,7 +215,7 @@ public final class SendersTest {
         int[] answers = {0, 0, 1, 2};
         for (int i = 0; i < cuts.length; i++) {
             MessageCodes x = withSender(1);
-            Checks.giveMessage(x, coded(1, 0, 2, ROW));
+            Checks.giveMessage(x, Checks.codedRow(KEY, 1, 0, 2, ROW));
             Checks.due("cut " + cuts[i], x.verify(1, 1, cuts[i]), answers[i]);
             x.code(1, 128);
             Checks.dueOut("the message after cut " + cuts[i], x, Checks.libraryCode(KEY, new byte[0]));
