@@ -12,9 +12,12 @@ public final class ModelTest {
     private static final int RUNS = 1500;
     private static final int MOST_CALLS = 512;
     private static final long HIGHEST = 1L << 62;
+    private static final int TRY_ROW = 23;
 
     private final Random random;
     private final String name;
+    /** Do the senders make mostly bad tries? Else few runs would ever block one. */
+    private final boolean pressed;
     private final MessageCodes x = new MessageCodes();
     private int calls;
 
@@ -31,6 +34,7 @@ public final class ModelTest {
     private ModelTest(int seed) {
         random = new Random(seed);
         name = "run " + seed + ", ";
+        pressed = seed % 3 == 0;
     }
 
     public static void main(String[] args) {
@@ -47,7 +51,7 @@ public final class ModelTest {
         }
         // A step may take as many calls as the longest row that it collects, and some more.
         while (calls < MOST_CALLS - 60) {
-            step(random.nextInt(24));
+            step(pressed && random.nextInt(3) != 0 ? TRY_ROW : random.nextInt(24));
         }
         if (random.nextInt(8) == 0) {
             return;
@@ -219,7 +223,7 @@ public final class ModelTest {
         return Checks.join(Checks.number(id, 1), Checks.number(trip, 4), Checks.number(counter, 8));
     }
 
-    /** A row with its code as a sender would make it, one time in three altered in a bit. */
+    /** A row with its code as a sender would make it, one time in three (or nearly always) altered in a bit. */
     private void tryRow() {
         int key = anyKey();
         int id = anyId();
@@ -228,7 +232,7 @@ public final class ModelTest {
         if (hasKey(key) && message.length <= 292) {
             byte[] all = Checks.join(rowOfTry(id, counter), message);
             byte[] cutCode = Checks.first(Checks.libraryCode(keys.get(key - 1), all), 8);
-            if (random.nextInt(3) == 0) {
+            if (pressed ? random.nextInt(6) != 0 : random.nextInt(3) == 0) {
                 cutCode[random.nextInt(8)] ^= (byte) (1 << random.nextInt(8));
             }
             collect(cutCode);
